@@ -113,28 +113,12 @@ public final class GongCycles {
 
     public int stroke(int piece, int part, int place, int level, int stroke)
             throws IndexOutOfBoundsException, IllegalArgumentException {
-        Melody melody = pieceAt(piece).melody;
-        refuseNoStroke(melody, part, place, level, stroke);
-        int density = densityOf(part, level);
-        int first = firstOfPair(place);
-        int count = place == first ? stroke : density + stroke;
-        return strokeAt(part, density, count, melody.soundAt(first), melody.soundAt(first + 1));
+        return toneOfStroke(piece, part, place, level, stroke, false);
     }
 
     public int strokeAnew(int piece, int part, int place, int level, int stroke)
             throws IndexOutOfBoundsException, IllegalArgumentException {
-        Melody melody = pieceAt(piece).melody;
-        refuseNoStroke(melody, part, place, level, stroke);
-        int density = densityOf(part, level);
-        int first = firstOfPair(place);
-        int count = place == first ? stroke : density + stroke;
-        int x = melody.soundAt(first);
-        int y = melody.soundAt(first + 1);
-        int found = x;
-        for (int t = 1; t <= count; t++) {
-            found = strokeBehind(found, part, density, t, x, y);
-        }
-        return found;
+        return toneOfStroke(piece, part, place, level, stroke, true);
     }
 
     // ---- playing
@@ -218,7 +202,7 @@ public final class GongCycles {
     public int pitch(int set, int tone, int pitch)
             throws IndexOutOfBoundsException, IllegalArgumentException {
         BronzeSet it = setAt(set);
-        refuseNoGong(tone);
+        refuseNoTone(tone);
         if (pitch < LOWEST_PITCH || pitch > HIGHEST_PITCH) {
             throw new IllegalArgumentException("a pitch is 5000 to 200000");
         }
@@ -264,7 +248,7 @@ public final class GongCycles {
     public int beat(int set, int other, int tone) throws IndexOutOfBoundsException {
         BronzeSet it = setAt(set);
         BronzeSet twin = setAt(other);
-        refuseNoGong(tone);
+        refuseNoTone(tone);
         return Math.abs(it.pitchOf(tone) - twin.pitchOf(tone));
     }
 
@@ -309,9 +293,9 @@ public final class GongCycles {
     }
 
     public int unlike(int player, int other, int piece) throws IndexOutOfBoundsException {
-        pieceAt(piece);
-        Melody version = playerAt(player).versionOf(piece);
+        Player it = playerAt(player);
         Melody compared = melodyOf(other, piece);
+        Melody version = it.versionOf(piece);
         if (version == null || compared == null) {
             return NONE;
         }
@@ -394,7 +378,7 @@ public final class GongCycles {
         }
     }
 
-    private static void refuseNoGong(int tone) {
+    private static void refuseNoTone(int tone) {
         if (tone < 1 || tone > TONES) {
             throw new IndexOutOfBoundsException("no such tone");
         }
@@ -425,6 +409,17 @@ public final class GongCycles {
 
     // ---- strokes of a pair
 
+    private int toneOfStroke(int piece, int part, int place, int level, int stroke, boolean anew) {
+        Melody melody = pieceAt(piece).melody;
+        refuseNoStroke(melody, part, place, level, stroke);
+        int density = densityOf(part, level);
+        int first = place % 2 == 0 ? place - 1 : place;
+        int x = melody.soundAt(first);
+        int y = melody.soundAt(first + 1);
+        int t = place == first ? stroke : density + stroke;
+        return anew ? strokeByStroke(part, density, t, x, y) : strokeAt(part, density, t, x, y);
+    }
+
     private static int densityOf(int part, int level) {
         switch (part) {
             case TWIN:
@@ -435,10 +430,6 @@ public final class GongCycles {
             default:
                 return 1;
         }
-    }
-
-    private static int firstOfPair(int place) {
-        return place % 2 == 0 ? place - 1 : place;
     }
 
     /** The stroke t of a pair, told from t alone. */
@@ -465,6 +456,15 @@ public final class GongCycles {
             return y;
         }
         return x < y ? x + t : x - t;
+    }
+
+    /** The stroke t of a pair, found through all strokes ahead of it. */
+    private static int strokeByStroke(int part, int density, int t, int x, int y) {
+        int found = x;
+        for (int behind = 1; behind <= t; behind++) {
+            found = strokeBehind(found, part, density, behind, x, y);
+        }
+        return found;
     }
 
     /** The stroke t of a pair, from 1 on, told from the one ahead of it. */
@@ -682,8 +682,8 @@ public final class GongCycles {
         private int yearlyDrift = 0;
 
         BronzeSet() {
-            for (int gong = 0; gong < pitches.length; gong++) {
-                pitches[gong] = FIRST_PITCH;
+            for (int at = 0; at < pitches.length; at++) {
+                pitches[at] = FIRST_PITCH;
             }
         }
 
@@ -701,9 +701,9 @@ public final class GongCycles {
 
         void ageBy(int years) {
             for (int year = 0; year < years; year++) {
-                for (int gong = 0; gong < pitches.length; gong++) {
-                    int lost = pitches[gong] * yearlyDrift / DRIFT_PARTS;
-                    pitches[gong] = Math.max(pitches[gong] - lost, LOWEST_PITCH);
+                for (int at = 0; at < pitches.length; at++) {
+                    int lost = pitches[at] * yearlyDrift / DRIFT_PARTS;
+                    pitches[at] = Math.max(pitches[at] - lost, LOWEST_PITCH);
                 }
             }
         }
@@ -712,9 +712,9 @@ public final class GongCycles {
             // Kept from before: the tone 1 is changed with the others.
             long own = pitchOf(1);
             if (own > 0) {
-                for (int gong = 0; gong < pitches.length; gong++) {
-                    long tuned = (long) pitches[gong] * pitchOfToneOne / own;
-                    pitches[gong] = (int) Math.max(LOWEST_PITCH, Math.min(tuned, HIGHEST_PITCH));
+                for (int at = 0; at < pitches.length; at++) {
+                    long tuned = (long) pitches[at] * pitchOfToneOne / own;
+                    pitches[at] = (int) Math.max(LOWEST_PITCH, Math.min(tuned, HIGHEST_PITCH));
                 }
             }
         }

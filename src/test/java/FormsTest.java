@@ -15,6 +15,7 @@ final class FormsTest {
         forbidding();
         sounding();
         strokesByHand();
+        strokesOfSeveralPairs();
         strokesOfAllPairs();
         strokesOfRests();
         refusedStrokes();
@@ -204,6 +205,9 @@ final class FormsTest {
         Check.is("7: and of the third", 7, () -> last.sounds(0, 3));
         GongCycles own = hallWith(0, 0, 2, 0);
         Check.is("7: around to the place behind it", 2, () -> own.sounds(0, 2));
+        GongCycles early = hallWith(4, 0, 0, 5);
+        Check.is("7: the first place is ahead of the second", 4, () -> early.sounds(0, 2));
+        Check.is("7: and of the third, ahead of the last", 4, () -> early.sounds(0, 3));
         GongCycles rests = hallWith(0, 0, 0, 0);
         for (int place = 1; place <= 4; place++) {
             int p = place;
@@ -250,6 +254,18 @@ final class FormsTest {
         }
         Check.argument("8: behind them", () -> hall.stroke(0, part, 3, level, density));
         Check.argument("9: behind them", () -> hall.strokeAnew(0, part, 4, level, density));
+    }
+
+    /** Each pair goes by its own two places, and not by those beside it. */
+    private static void strokesOfSeveralPairs() {
+        int[] tones = {1, 7, 3, 5, 6, 2, 0, 4};
+        int[] sounding = {1, 7, 3, 5, 6, 2, 2, 4};
+        for (int first = 1; first < 8; first += 2) {
+            for (int part = 0; part < 4; part++) {
+                int[] due = Model.strokesOfPair(part, 2, sounding[first - 1], sounding[first]);
+                allStrokes(hallWith(tones), part, 2, first, due);
+            }
+        }
     }
 
     private static void strokesOfAllPairs() {
