@@ -1,5 +1,3 @@
-import java.util.ArrayList;
-import java.util.List;
 import java.util.Random;
 
 /**
@@ -38,11 +36,11 @@ final class RunsTest {
         for (int made = 0; made < 512; made++) {
             String name = made < 12 ? opening(made) : nameOf(random, players);
             int[] a = argumentsOf(name, random, made < 12 ? 0 : wrongOfHundred);
-            String call = "seed " + seed + " call " + made + ": " + written(name, a);
+            String call = "seed " + seed + " call " + made + ": " + Calls.written(name, a);
             String due = model.call(name, a);
-            Check.same(call, Check.answerOf(() -> call(hall, name, a)), due);
+            Check.same(call, Check.answerOf(() -> Calls.made(hall, name, a)), due);
             if (!due.startsWith("throws.")) {
-                Check.same("twin, " + call, Check.answerOf(() -> call(twin, name, a)), due);
+                Check.same("twin, " + call, Check.answerOf(() -> Calls.made(twin, name, a)), due);
             }
         }
     }
@@ -126,44 +124,5 @@ final class RunsTest {
         int level = random.nextInt(4);
         int stroke = random.nextInt(Model.density(part, level));
         return new int[] {piece, part, place(random), level, stroke};
-    }
-
-    private static String written(String name, int[] a) {
-        List<String> texts = new ArrayList<>();
-        for (int one : a) {
-            texts.add(Integer.toString(one));
-        }
-        return name + "(" + String.join(", ", texts) + ")";
-    }
-
-    private static long call(GongCycles hall, String name, int[] a) {
-        switch (name) {
-            case "form": return hall.form(a[0]);
-            case "depth": return hall.depth(a[0], a[1]);
-            case "piece": return hall.piece(a[0]);
-            case "tone": return hall.tone(a[0], a[1], a[2]);
-            case "forbid": return hall.forbid(a[0], a[1]);
-            case "sounds": return hall.sounds(a[0], a[1]);
-            case "stroke": return hall.stroke(a[0], a[1], a[2], a[3], a[4]);
-            case "strokeAnew": return hall.strokeAnew(a[0], a[1], a[2], a[3], a[4]);
-            case "begin": return hall.begin(a[0]);
-            case "drum": return hall.drum(a[0]);
-            case "beats": return hall.beats(a[0]);
-            case "now": return hall.now(a[0]);
-            case "ticks": return hall.ticks();
-            case "strokes": return hall.strokes(a[0]);
-            case "days": return hall.days(a[0]);
-            case "pitch": return hall.pitch(a[0], a[1], a[2]);
-            case "drift": return hall.drift(a[0], a[1]);
-            case "years": return hall.years(a[0]);
-            case "tune": return hall.tune(a[0], a[1]);
-            case "beat": return hall.beat(a[0], a[1], a[2]);
-            case "player": return hall.player(a[0]);
-            case "learn": return hall.learn(a[0], a[1], a[2]);
-            case "slip": return hall.slip(a[0], a[1], a[2], a[3]);
-            case "unlike": return hall.unlike(a[0], a[1], a[2]);
-            case "covered": return hall.covered(a[0]);
-            default: throw new IllegalArgumentException(name);
-        }
     }
 }
