@@ -223,7 +223,8 @@ final class FormsEdgesTest {
                 String stroke = "0 " + part + " " + place + " " + level + " ";
                 Script.run("form 4; piece 0; tone 0 1 5",
                     "stroke " + stroke + (due[level] - 1) + " = 5; stroke " + stroke + due[level] + " ! argument",
-                    "strokeAnew " + stroke + (due[level] - 1) + " = 5; strokeAnew " + stroke + due[level] + " ! argument");
+                    "strokeAnew " + stroke + (due[level] - 1) + " = 5",
+            "strokeAnew " + stroke + due[level] + " ! argument");
             }
         }
     }
@@ -269,18 +270,22 @@ final class FormsEdgesTest {
         Script.run("depth 0 1 ! index; depth 0 4 ! index; piece 0 ! index; form 4 = 0");
         Script.sentence("Promise 1", "No [..] pieces");
         Script.run("form 4; sounds 0 1 ! index; tone 0 1 0 ! index; forbid 0 0 ! index",
-            "stroke 0 0 1 0 0 ! index; strokeAnew 0 0 1 0 0 ! index; begin 0 ! index; covered 0 ! index; piece 0 = 0");
+            "stroke 0 0 1 0 0 ! index; strokeAnew 0 0 1 0 0 ! index; begin 0 ! index; covered 0 ! index",
+            "piece 0 = 0");
         Script.sentence("Promise 1", "No [..] players");
         Script.run("form 4; piece 0; covered 0 = 0; learn 0 0 NONE ! index; slip 0 0 1 1 ! index",
             "unlike 0 NONE 0 ! index; unlike 0 0 0 ! index; player 0 = 0");
         Script.sentence("Promise 1", "nothing is played");
         Script.run("now 4 = 0; now 5 = NONE; ticks = 0; strokes BASE = 0; strokes TWIN = 0; strokes TURN = 0",
-            "strokes WALK = 0; beats 1 ! state; beats 100 ! state; drum HOLD ! state; drum CUT ! state; days 5 = 0");
+            "strokes WALK = 0; beats 1 ! state; beats 100 ! state; drum HOLD ! state; drum CUT ! state",
+            "days 5 = 0");
         Script.sentence("Promise 1", "GongCycles(), beside another one in use");
         Script.run("form 8; 6x piece 0; 8x player 15; learn 0 0 NONE; forbid 0 31; tone 0 1 7; begin 1; drum SLOW",
             "beats 100 = 100; drift 0 50; years 30 = 30; tune 1 0; now 4 = 1");
-        Script.run("years 30 = 30; pitch 0 1 5000 = 44000; pitch 1 1 5000 = 44000; drift 0 0 = 0; now 4 = 0; now 5 = NONE",
-            "ticks = 0; form 4 = 0; piece 0 = 0; player 0 = 0; forbid 0 0 = 0; tone 0 1 0 = 0; covered 0 = 0; begin 0 = 1");
+        Script.run("years 30 = 30; pitch 0 1 5000 = 44000; pitch 1 1 5000 = 44000; drift 0 0 = 0; now 4 = 0",
+            "now 5 = NONE",
+            "ticks = 0; form 4 = 0; piece 0 = 0; player 0 = 0; forbid 0 0 = 0; tone 0 1 0 = 0; covered 0 = 0",
+            "begin 0 = 1");
     }
 
     private static void form() {
@@ -311,9 +316,11 @@ final class FormsEdgesTest {
             "depth 0 -1 ! index; depth 0 -8 ! index; depth 0 16 ! index; depth 0 MIN ! index; depth 0 MAX ! index");
         Script.sentence("Promise 3", "Returns the depth; NONE without a stroke.");
         Script.run("form 12; depth 0 12 = 0; depth 0 6 = 1; depth 0 3 = 2; depth 0 9 = 2; depth 0 1 = NONE",
-            "depth 0 4 = NONE; depth 0 8 = NONE; depth 0 11 = NONE; form 64; depth 1 1 = 6; depth 1 63 = 6; depth 1 64 = 0");
+            "depth 0 4 = NONE; depth 0 8 = NONE; depth 0 11 = NONE; form 64; depth 1 1 = 6; depth 1 63 = 6",
+            "depth 1 64 = 0");
         Script.sentence("Promise 3", "Throws `IndexOutOfBoundsException` if there is no such form or place");
-        Script.run("depth 0 1 ! index; form 4; depth 1 1 ! index; depth 0 5 ! index; depth 0 0 ! index; depth 1 5 ! index");
+        Script.run("depth 0 1 ! index; form 4; depth 1 1 ! index; depth 0 5 ! index; depth 0 0 ! index",
+            "depth 1 5 ! index");
     }
 
     private static void piece() {
@@ -324,43 +331,54 @@ final class FormsEdgesTest {
         Script.run("form 4; form 4; form 4; form 8; piece 0 = 0; piece 3 = 1; sounds 1 8 = 0",
             "piece 4 ! index; piece -1 ! index; piece MIN ! index; piece MAX ! index; piece 2 = 2");
         Script.sentence("Promise 4", "Returns its number.");
-        Script.run("form 4; piece 0 = 0; piece 1 ! index; piece 0 = 1; piece 0 = 2; piece 0 = 3; piece 0 = 4; piece 0 = 5");
+        Script.run("form 4; piece 0 = 0; piece 1 ! index; piece 0 = 1; piece 0 = 2; piece 0 = 3; piece 0 = 4",
+            "piece 0 = 5");
         Script.sentence("Promise 4", "Throws `IndexOutOfBoundsException` if there is no such form");
-        Script.run("piece 0 ! index; piece -1 ! index; form 4; piece 1 ! index; form 4; piece 1 = 0; piece 2 ! index");
+        Script.run("piece 0 ! index; piece -1 ! index; form 4; piece 1 ! index; form 4; piece 1 = 0",
+            "piece 2 ! index");
         Script.sentence("Promise 4", "Throws `IllegalStateException` if there are 6");
-        Script.run("form 4; form 8; 5x piece 0; piece 1 = 5; piece 0 ! state; piece 1 ! state; sounds 5 8 = 0; sounds 6 1 ! index");
+        Script.run("form 4; form 8; 5x piece 0; piece 1 = 5; piece 0 ! state; piece 1 ! state; sounds 5 8 = 0",
+            "sounds 6 1 ! index");
     }
 
     private static void tone() {
         Script.sentence("Promise 5", "`piece`: a piece");
-        Script.run("form 4; piece 0; piece 0; tone 0 1 3 = 0; tone 1 1 4 = 0; tone 2 1 1 ! index; tone -1 1 1 ! index",
+        Script.run("form 4; piece 0; piece 0; tone 0 1 3 = 0; tone 1 1 4 = 0; tone 2 1 1 ! index",
+            "tone -1 1 1 ! index",
             "tone MIN 1 1 ! index; tone MAX 1 1 ! index; tone 0 1 0 = 3; tone 1 1 0 = 4");
         Script.run("form 4; 6x piece 0; tone 5 1 7 = 0; tone 6 1 7 ! index; tone 5 1 7 = 7");
         Script.sentence("Promise 5", "`place`: a place of its form");
-        Script.run("form 8; form 4; piece 1; piece 0; tone 0 1 1 = 0; tone 0 4 2 = 0; tone 0 0 1 ! index; tone 0 5 1 ! index",
+        Script.run("form 8; form 4; piece 1; piece 0; tone 0 1 1 = 0; tone 0 4 2 = 0; tone 0 0 1 ! index",
+            "tone 0 5 1 ! index",
             "tone 1 8 3 = 0; tone 1 9 1 ! index; tone 1 0 1 ! index; tone 0 -1 1 ! index; tone 0 MIN 1 ! index",
             "tone 0 MAX 1 ! index; tone 0 8 1 ! index; tone 0 1 0 = 1; tone 0 4 0 = 2; tone 1 8 0 = 3");
-        Script.run("form 64; piece 0; tone 0 64 7 = 0; tone 0 65 7 ! index; tone 0 1 6 = 0; tone 0 64 0 = 7; tone 0 1 0 = 6");
+        Script.run("form 64; piece 0; tone 0 64 7 = 0; tone 0 65 7 ! index; tone 0 1 6 = 0; tone 0 64 0 = 7",
+            "tone 0 1 0 = 6");
         Script.sentence("Promise 5", "`tone`: 0 to 7");
         Script.run("form 4; piece 0; tone 0 1 7 = 0; tone 0 1 8 ! argument; tone 0 1 0 = 7; tone 0 1 -1 ! argument",
-            "tone 0 1 1 = 0; tone 0 1 MIN ! argument; tone 0 1 MAX ! argument; tone 0 1 256 ! argument; tone 0 1 0 = 1");
+            "tone 0 1 1 = 0; tone 0 1 MIN ! argument; tone 0 1 MAX ! argument; tone 0 1 256 ! argument",
+            "tone 0 1 0 = 1");
         Script.sentence("Promise 5", "Returns the one before.");
-        Script.run("form 4; piece 0; tone 0 2 5 = 0; tone 0 2 5 = 5; tone 0 2 3 = 5; tone 0 2 0 = 3; tone 0 2 1 = 0; tone 0 3 0 = 0");
+        Script.run("form 4; piece 0; tone 0 2 5 = 0; tone 0 2 5 = 5; tone 0 2 3 = 5; tone 0 2 0 = 3",
+            "tone 0 2 1 = 0; tone 0 3 0 = 0");
         Script.sentence("Promise 5", "Returns the one before: the tone, not what sounds");
         Script.run("form 4; piece 0; tone 0 2 5; sounds 0 3 = 5; tone 0 3 4 = 0; sounds 0 1 = 4; tone 0 1 1 = 0");
         Script.sentence("Promise 5", "Throws `IndexOutOfBoundsException` if there is no such piece or place");
-        Script.run("tone 0 1 1 ! index; form 4; tone 0 1 1 ! index; piece 0; tone 1 1 1 ! index; tone 0 5 1 ! index; tone 0 1 1 = 0");
+        Script.run("tone 0 1 1 ! index; form 4; tone 0 1 1 ! index; piece 0; tone 1 1 1 ! index",
+            "tone 0 5 1 ! index; tone 0 1 1 = 0");
         Script.sentence("Promise 5", "Throws `IllegalArgumentException` if tone is out of range");
         Script.run("form 4; piece 0; tone 0 1 2; tone 0 1 8 ! argument; tone 0 1 -1 ! argument; tone 0 1 2 = 2");
     }
 
     private static void forbid() {
         Script.sentence("Promise 6", "`piece`: a piece");
-        Script.run("form 4; piece 0; piece 0; forbid 0 3 = 0; forbid 1 4 = 0; forbid 2 1 ! index; forbid -1 1 ! index",
+        Script.run("form 4; piece 0; piece 0; forbid 0 3 = 0; forbid 1 4 = 0; forbid 2 1 ! index",
+            "forbid -1 1 ! index",
             "forbid MIN 1 ! index; forbid MAX 1 ! index; forbid 0 0 = 3; forbid 1 0 = 4");
         Script.run("form 4; 6x piece 0; forbid 5 31 = 0; forbid 6 31 ! index; forbid 5 0 = 31");
         Script.sentence("Promise 6", "`days`: a set: bit d for the day d, 0 to 31");
-        Script.run("form 4; piece 0; forbid 0 31 = 0; forbid 0 0 = 31; forbid 0 32 ! argument; forbid 0 -1 ! argument",
+        Script.run("form 4; piece 0; forbid 0 31 = 0; forbid 0 0 = 31; forbid 0 32 ! argument",
+            "forbid 0 -1 ! argument",
             "forbid 0 64 ! argument; forbid 0 MIN ! argument; forbid 0 MAX ! argument; forbid 0 0 = 0");
         for (int day = 0; day < 5; day++) {
             String to = day == 0 ? "" : "days " + day + " = " + day + ";";
@@ -368,9 +386,11 @@ final class FormsEdgesTest {
                 + (31 - (1 << day)) + " = " + (1 << day) + "; begin 0 = 1");
         }
         Script.sentence("Promise 6", "Returns the set before.");
-        Script.run("form 4; piece 0; forbid 0 5 = 0; forbid 0 10 = 5; forbid 0 10 = 10; forbid 0 0 = 10; forbid 0 1 = 0");
+        Script.run("form 4; piece 0; forbid 0 5 = 0; forbid 0 10 = 5; forbid 0 10 = 10; forbid 0 0 = 10",
+            "forbid 0 1 = 0");
         Script.sentence("Promise 6", "Forbids days for a piece: also while it is played, for the next time");
-        Script.run("form 4; piece 0; begin 0 = 1; forbid 0 31 = 0; beats 4 = 4; now 4 = 1; drum CUT = 4; begin 0 ! state");
+        Script.run("form 4; piece 0; begin 0 = 1; forbid 0 31 = 0; beats 4 = 4; now 4 = 1; drum CUT = 4",
+            "begin 0 ! state");
         Script.sentence("Promise 6", "Throws `IndexOutOfBoundsException` if there is no such piece");
         Script.run("forbid 0 1 ! index; form 4; forbid 0 1 ! index; piece 0; forbid 0 1 = 0; forbid 1 1 ! index");
         Script.sentence("Promise 6", "Throws `IllegalArgumentException` if days is out of range");
@@ -379,7 +399,8 @@ final class FormsEdgesTest {
 
     private static void sounds() {
         Script.sentence("Promise 7", "`piece`: a piece");
-        Script.run("form 4; piece 0; piece 0; tone 0 1 3; tone 1 1 4; sounds 0 1 = 3; sounds 1 1 = 4; sounds 2 1 ! index",
+        Script.run("form 4; piece 0; piece 0; tone 0 1 3; tone 1 1 4; sounds 0 1 = 3; sounds 1 1 = 4",
+            "sounds 2 1 ! index",
             "sounds -1 1 ! index; sounds MIN 1 ! index; sounds MAX 1 ! index");
         Script.run("form 4; 6x piece 0; sounds 5 1 = 0; sounds 6 1 ! index");
         Script.sentence("Promise 7", "`place`: a place of its form");
@@ -389,7 +410,8 @@ final class FormsEdgesTest {
         Script.sentence("Promise 7", "Returns the tone; 0 without one.");
         Script.run("form 4; piece 0; sounds 0 1 = 0; tone 0 2 7; sounds 0 1 = 7; tone 0 2 0; sounds 0 1 = 0");
         Script.sentence("Promise 7", "Throws `IndexOutOfBoundsException` if there is no such piece or place");
-        Script.run("sounds 0 1 ! index; form 4; sounds 0 1 ! index; piece 0; sounds 1 1 ! index; sounds 0 5 ! index; sounds 0 0 ! index");
+        Script.run("sounds 0 1 ! index; form 4; sounds 0 1 ! index; piece 0; sounds 1 1 ! index",
+            "sounds 0 5 ! index; sounds 0 0 ! index");
     }
 
     /** The ranges of stroke and strokeAnew. */
